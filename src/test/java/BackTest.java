@@ -17,7 +17,7 @@ public final class BackTest {
         m.setBreak(0);
         Words.run(m, 5);
         Check.same("time 0 is no stop, though its PC is a breakpoint", m.back(1000), 12);
-        Check.state("at the start", m, 0, 0, 1, 5, 8, 0);
+        Check.state("at the start", m, 0, 0, 1, 5, 7, 0, 8, 0);
         Words.run(m, 5);
         Check.same("just so many to the start", m.back(5), 12);
         Words.run(m, 5);

@@ -3,6 +3,7 @@ public final class ForthTest {
     public static void main(String[] args) {
         stepsDoNotLookAtStops();
         fuel();
+        costsNothing();
         breaks();
         watches();
         breakBeforeWatch();
@@ -35,6 +36,20 @@ public final class ForthTest {
         ReplayMachine halted = new ReplayMachine(0);
         Check.same("forth(0) of a machine that halts", halted.forth(0), 11);
         Check.same("forth(1) of a machine that halts", halted.forth(1), 1);
+    }
+
+    private static void costsNothing() {
+        ReplayMachine m = Words.counting();
+        Words.run(m, 40);
+        m.go(5);
+        Check.state("a cost", m, 7, 5);
+        m.forth(3);
+        Check.state("forth costs nothing", m, 7, 0);
+        m.go(1);
+        m.go(4);
+        Check.state("a cost", m, 7, 3);
+        m.forth(0);
+        Check.state("forth(0) costs nothing", m, 7, 0);
     }
 
     private static void breaks() {

@@ -149,23 +149,54 @@ public final class GoTest {
         Check.checkpoints("at time 0", m, 0, 32, 64, 96, 128);
         Words.run(m, 160);
         Check.checkpoints("a new one", m, 0, 32, 64, 96, 128, 160);
+        m.go(159);
+        m.step();
+        Check.checkpoints("T itself a second time", m, 0, 32, 64, 96, 128, 160);
     }
 
-    /** All of a state at a time, from wherever it is come to. */
-    private static void statesAreTheSame() {
-        ReplayMachine m = Words.machine(5, Words.push(5), Words.LOAD, Words.random(9), Words.call(20),
-            Words.push(5), Words.STORE, Words.DROP, Words.jump(0));
-        ReplayMachine once = Words.machine(5, Words.push(5), Words.LOAD, Words.random(9), Words.call(20),
-            Words.push(5), Words.STORE, Words.DROP, Words.jump(0));
-        Check.same("the place of the call halts", m.forth(100), 1);
-        once.forth(100);
-        for (int time = 4; time >= 0; time--) {
-            m.go(time);
-            Check.same("time", m.state(0), time);
+    /** Random numbers, inputs, a call, a frame and stores, so that every part of the state moves. */
+    private static ReplayMachine busy() {
+        ReplayMachine m = Words.machine(5, Words.push(5), Words.LOAD, Words.random(9), Words.call(13),
+            Words.ADD, Words.ADD, Words.push(5), Words.STORE, Words.TAKE, Words.random(32), Words.STORE, Words.jump(0),
+            Words.HALT, Words.argument(0), Words.FRAME, Words.MULTIPLY, Words.RETURN);
+        for (int i = 0; i < 40; i++) {
+            m.input(3 * i - 50);
         }
-        m.go(4);
-        for (int what = 0; what <= 6; what++) {
-            Check.same("state " + what, m.state(what), once.state(what));
+        m.forth(1000);
+        return m;
+    }
+
+    /** All of a state at a time, from wherever it is come to: by undo, by checkpoints, by steps. */
+    private static void statesAreTheSame() {
+        ReplayMachine going = busy();
+        int end = going.state(1);
+        Check.same("it runs long enough", end > 500, true);
+        for (int i = 0; i < 150; i++) {
+            int to = i * i * 7 % (end + 1);
+            going.go(to);
+            compare("go(" + to + ")", going, stepped(to));
+            going.back(i % 40);
+            int before = Math.max(0, to - i % 40);
+            compare("back to " + before, going, stepped(before));
+        }
+    }
+
+    private static ReplayMachine stepped(int time) {
+        ReplayMachine m = busy();
+        m.go(0);
+        Words.run(m, time);
+        return m;
+    }
+
+    private static void compare(String what, ReplayMachine got, ReplayMachine due) {
+        for (int part = 0; part <= 6; part++) {
+            Check.same(what + ": state(" + part + ")", got.state(part), due.state(part));
+        }
+        for (int at = 0; at < 32; at++) {
+            Check.same(what + ": cell(" + at + ")", got.cell(at), due.cell(at));
+        }
+        for (int i = 0; i < due.state(6) && i < got.state(6); i++) {
+            Check.same(what + ": stack(" + i + ")", got.stack(i), due.stack(i));
         }
     }
 }

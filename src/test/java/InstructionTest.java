@@ -234,9 +234,16 @@ public final class InstructionTest {
         }
         stopsWith("return without a frame", 2, Words.push(1), Words.push(2), Words.push(3), Words.RETURN);
         stopsWith("return with nothing above F", 2, Words.call(1), Words.RETURN);
+        Check.same("a return with nothing above F is not done", timeOfStop(Words.call(1), Words.RETURN), 1);
         stopsWith("no argument below", 2, Words.call(1), Words.argument(0));
         stopsWith("no argument above", 2, Words.call(1), Words.argument(-3));
         stopsWith("no argument without a frame", 2, Words.argument(0));
+    }
+
+    private static int timeOfStop(int... words) {
+        ReplayMachine m = Words.machine(0, words);
+        m.forth(1000);
+        return m.state(0);
     }
 
     /** The machine with so many numbers on the stack, in front of the words given. */
