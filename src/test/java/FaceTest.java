@@ -12,6 +12,13 @@ public final class FaceTest {
     private static final String IAE = "java.lang.IllegalArgumentException";
 
     public static void main(String[] args) {
+        methods();
+        constructorsAndFields();
+        Check.end("FaceTest");
+    }
+
+    private static void methods() {
+        Check.sentence("The public face");
         TreeSet<String> due = new TreeSet<>(Arrays.asList(
             "void poke[int, int] " + IOOBE + " " + ISE, "int input[int]", "int step[]", "int forth[int] " + IAE,
             "int back[int] " + IAE, "void go[int] " + IAE, "boolean setBreak[int] " + IOOBE,
@@ -29,8 +36,6 @@ public final class FaceTest {
         System.out.print(got.equals(due) ? "" : "the face is " + got + "\n");
         Check.same("the methods of the face", got.equals(due), true);
         privateNames(names);
-        constructorsAndFields();
-        Check.end("FaceTest");
     }
 
     private static String described(Method m) {
@@ -44,6 +49,7 @@ public final class FaceTest {
     }
 
     private static void privateNames(TreeSet<String> names) {
+        Check.sentence("No private method bears the name of a public one.");
         for (Method m : ReplayMachine.class.getDeclaredMethods()) {
             Check.same(m + " has a name of its own", Modifier.isPrivate(m.getModifiers()) && names.contains(m.getName()), false);
         }
@@ -57,6 +63,7 @@ public final class FaceTest {
     }
 
     private static void constructorsAndFields() {
+        Check.sentence("no other public, protected or package-visible member ... Static fields are final");
         Check.same("public final class", ReplayMachine.class.getModifiers(), Modifier.PUBLIC | Modifier.FINAL);
         Constructor<?>[] made = ReplayMachine.class.getDeclaredConstructors();
         Check.same("constructors", made.length, 1);

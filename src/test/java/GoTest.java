@@ -1,202 +1,230 @@
-/** Promises 7, 12 and 15: going to a time by UNDO, by checkpoints and by steps, and the cost of it. */
+import java.util.List;
+
+/** Terms, TO GO, and promise 7: each way to a time, the edge between it and the next, and its cost. */
 public final class GoTest {
     public static void main(String[] args) {
-        refusals();
+        toWhereItIs();
         byUndo();
-        fromCheckpoints();
-        forward();
-        forwardKeepsUndo();
-        checkpointTimes();
-        checkpointsOnlyOfNewTimes();
-        statesAreTheSame();
+        undoBeforeACheckpoint();
+        undoOneTooShort();
+        checkpointNotAboveIt();
+        forwardFromWhereItIs();
+        forwardFromTheTimeOfACheckpoint();
+        forwardByACheckpoint();
+        backByACheckpoint();
+        costIsTheSteps();
+        goesToATime();
+        refusesOtherTimes();
+        looksAtNoStops();
         Check.end("GoTest");
     }
 
-    private static void refusals() {
-        ReplayMachine m = Words.circling();
-        m.go(0);
-        Check.refused("go(1) of a new object", IllegalArgumentException.class, () -> m.go(1));
-        Words.run(m, 50);
-        m.go(10);
-        for (int time : new int[] {-1, 51, Integer.MIN_VALUE, Integer.MAX_VALUE}) {
-            Check.refused("go(" + time + ")", IllegalArgumentException.class, () -> m.go(time));
+    private static void toWhereItIs() {
+        Check.sentence("if u is t, nothing is done, at no cost.");
+        for (int time : new int[] {0, 1, 16, 40, 96, 100, 3000}) {
+            Used m = Words.circling(time);
+            Check.unchanged("go(" + time + ")", m, () -> m.go(time));
         }
-        Check.state("a refused go does nothing", m, 0, 10, 1, 50, 7, 10, 8, 10);
-        m.go(50);
-        Check.state("T can be gone to", m, 0, 50, 1, 50);
-        for (int i : new int[] {4, -1, Integer.MIN_VALUE, Integer.MAX_VALUE}) {
-            Check.refused("checkpoint(" + i + ")", IndexOutOfBoundsException.class, () -> m.checkpoint(i));
-            Check.refused("stack(" + i + ")", IndexOutOfBoundsException.class, () -> m.stack(i));
-        }
-        for (int what : new int[] {11, -1, Integer.MIN_VALUE, Integer.MAX_VALUE}) {
-            Check.refused("state(" + what + ")", IndexOutOfBoundsException.class, () -> m.state(what));
-        }
-        ReplayMachine two = Words.machine(0, Words.push(1), Words.push(2), Words.DROP);
-        two.forth(9);
-        Check.same("the number that is there", two.stack(0), 1);
-        Check.refused("a number that was there", IndexOutOfBoundsException.class, () -> two.stack(1));
+        Used costly = Words.circling(100);
+        costly.go(67);
+        Check.state("a cost", costly, 7, 3, 8, 3);
+        costly.go(67);
+        Check.state("no cost any more", costly, 0, 67, 7, 0, 8, 3);
+        Used emptied = Words.circling(100);
+        emptied.go(68);
+        emptied.go(68);
+        Check.state("with an empty UNDO", emptied, 0, 68, 7, 0, 8, 0);
     }
 
     private static void byUndo() {
-        ReplayMachine m = Words.circling();
-        Words.run(m, 100);
-        Check.state("undo has 32", m, 8, 32);
-        m.go(100);
-        Check.state("where it is", m, 0, 100, 7, 0, 8, 32);
-        m.go(90);
-        Check.state("10 undone", m, 0, 90, 7, 0, 8, 22);
-        m.go(68);
-        Check.state("all undone", m, 0, 68, 7, 0, 8, 0);
-        m.go(68);
-        Check.state("where it is, with an empty UNDO", m, 0, 68, 7, 0, 8, 0);
-        m.go(67);
-        Check.state("no undo any more", m, 0, 67, 7, 3, 8, 3);
+        Check.sentence("If u is below t, and UNDO has t - u steps or more, these are undone.");
+        for (int steps : new int[] {1, 2, 31, 32}) {
+            Used m = Words.counting(100);
+            m.go(100 - steps);
+            Check.state(steps + " steps", m, 0, 100 - steps, 1, 100, 7, 0, 8, 32 - steps, 2, (100 - steps) % 7);
+        }
+        Used few = Words.counting(9);
+        few.go(0);
+        Check.state("just as many as there are", few, 0, 0, 7, 0, 8, 0);
     }
 
-    private static void fromCheckpoints() {
-        ReplayMachine m = Words.circling();
-        Words.run(m, 100);
-        m.go(67);
-        Check.state("33 back is too far for undo", m, 0, 67, 7, 3, 8, 3);
-        m.go(63);
-        Check.state("one too far for undo", m, 0, 63, 7, 15, 8, 15);
-        m.go(32);
-        Check.state("just a checkpoint", m, 0, 32, 7, 0, 8, 0);
-        m.go(31);
-        Check.state("just before a checkpoint", m, 0, 31, 7, 15, 8, 15);
-        m.go(0);
-        Check.state("the start", m, 0, 0, 7, 0, 8, 0, 2, 0);
-    }
-
-    private static void forward() {
-        ReplayMachine m = Words.circling();
-        Words.run(m, 100);
-        m.go(0);
-        m.go(15);
-        Check.state("no checkpoint between", m, 0, 15, 7, 15, 8, 15);
-        m.go(17);
-        Check.state("a checkpoint between", m, 0, 17, 7, 1, 8, 1);
-        m.go(33);
-        Check.state("a checkpoint between", m, 0, 33, 7, 1, 8, 1);
-        m.go(64);
-        Check.state("to a checkpoint", m, 0, 64, 7, 0, 8, 0);
-        m.go(79);
-        Check.state("from the checkpoint itself", m, 0, 79, 7, 15, 8, 15);
-        m.go(100);
-        Check.state("from the last checkpoint", m, 0, 100, 7, 4, 8, 4);
-    }
-
-    private static void forwardKeepsUndo() {
-        ReplayMachine m = Words.circling();
-        Words.run(m, 100);
-        m.go(94);
-        Check.state("6 undone", m, 8, 26);
-        m.go(95);
-        Check.state("undo goes on when it steps", m, 7, 1, 8, 27);
+    private static void undoBeforeACheckpoint() {
+        Check.sentence("UNDO has t - u steps or more, these are undone. Else C: a checkpoint of u itself is not looked at");
+        Used m = Words.circling(100);
         m.go(96);
-        Check.state("the checkpoint of its own goal", m, 7, 0, 8, 0);
+        Check.state("to the time of a checkpoint", m, 0, 96, 7, 0, 8, 28);
         m.go(80);
-        m.go(79);
-        m.go(80);
-        Check.state("the checkpoint of its own goal again", m, 7, 0, 8, 0);
-        // The checkpoint is the very time it is at: it steps from there and UNDO stays.
-        m.go(95);
-        m.go(85);
-        m.go(80);
+        Check.state("to the time of another", m, 0, 80, 7, 0, 8, 12);
+    }
+
+    private static void undoOneTooShort() {
+        Check.sentence("If u is below t, and UNDO has t - u steps or more ... Else");
+        Used full = Words.circling(100);
+        full.go(67);
+        Check.state("33 back", full, 0, 67, 7, 3, 8, 3);
+        full.go(64);
+        Check.state("3 back, as many as there are", full, 0, 64, 7, 0, 8, 0);
+        full.go(63);
+        Check.state("1 back with none", full, 0, 63, 7, 15, 8, 15);
+        full.go(47);
+        Check.state("16 back with 15", full, 0, 47, 7, 15, 8, 15);
+        full.go(32);
+        Check.state("15 back with 15", full, 0, 32, 7, 0, 8, 0);
+    }
+
+    private static void checkpointNotAboveIt() {
+        Check.sentence("Else C is the greatest time of a checkpoint that is not above u");
+        int[][] timesAndCosts = {{0, 0}, {1, 1}, {15, 15}, {16, 0}, {17, 1}, {31, 15}, {32, 0}, {33, 1}, {63, 15}};
+        for (int[] pair : timesAndCosts) {
+            Used m = Words.circling(100);
+            m.go(pair[0]);
+            Check.state("go(" + pair[0] + ")", m, 0, pair[0], 7, pair[1], 8, pair[1]);
+        }
+        Used fewer = Words.circling(3000);
+        fewer.go(511);
+        Check.state("one before a checkpoint", fewer, 0, 511, 7, 511, 8, 32);
+        fewer.go(2559);
+        Check.state("one before the last", fewer, 0, 2559, 7, 511, 8, 32);
+        fewer.go(2560);
+        Check.state("the last", fewer, 0, 2560, 7, 0, 8, 0);
+    }
+
+    private static void forwardFromWhereItIs() {
+        Check.sentence("if u is above t and C is not, the machine steps from t to u");
+        Used m = Words.circling(100);
+        m.go(17);
+        m.go(18);
+        Check.state("1 forward", m, 0, 18, 7, 1, 8, 2);
+        m.go(31);
+        Check.state("up to one before a checkpoint", m, 0, 31, 7, 13, 8, 15);
+        m.go(20);
+        m.go(31);
+        Check.state("what was undone is stepped again", m, 0, 31, 7, 11, 8, 15);
+        Used far = Words.circling(1000);
+        far.go(129);
+        far.go(255);
+        Check.state("more than 32 steps", far, 0, 255, 7, 126, 8, 32);
+        Used last = Words.circling(100);
+        last.go(98);
+        last.go(100);
+        Check.state("UNDO is kept and grows", last, 0, 100, 7, 2, 8, 32);
+    }
+
+    private static void forwardFromTheTimeOfACheckpoint() {
+        Check.sentence("if u is above t and C is not: C is t itself, and UNDO stays");
+        Used m = Words.circling(100);
         m.go(70);
-        m.step();
-        m.forth(9);
-        Check.state("stepped up to a checkpoint", m, 0, 80, 8, 16);
+        m.forth(10);
+        Check.state("stepped to a checkpoint's time", m, 0, 80, 8, 12);
         m.go(82);
-        Check.state("from a checkpoint's time with an UNDO", m, 0, 82, 7, 2, 8, 18);
+        Check.state("from there", m, 0, 82, 7, 2, 8, 14);
+        Used undone = Words.circling(100);
+        undone.go(96);
+        undone.go(97);
+        Check.state("undone to a checkpoint's time, and on", undone, 0, 97, 7, 1, 8, 29);
+        Used start = Words.circling(10);
+        start.go(0);
+        start.go(9);
+        Check.state("from time 0", start, 0, 9, 7, 9, 8, 9);
     }
 
-    private static void checkpointTimes() {
-        ReplayMachine m = Words.circling();
-        Words.run(m, 15);
-        Check.checkpoints("15", m, 0);
-        Words.run(m, 16);
-        Check.checkpoints("16", m, 0, 16);
-        Words.run(m, 127);
-        Check.checkpoints("127", m, 0, 16, 32, 48, 64, 80, 96, 112);
-        Check.state("127", m, 9, 16);
-        Words.run(m, 128);
-        Check.checkpoints("128", m, 0, 32, 64, 96, 128);
-        Check.state("128", m, 9, 32);
-        Words.run(m, 144);
-        Check.checkpoints("144", m, 0, 32, 64, 96, 128);
-        Words.run(m, 255);
-        Check.checkpoints("255", m, 0, 32, 64, 96, 128, 160, 192, 224);
-        Words.run(m, 256);
-        Check.checkpoints("256", m, 0, 64, 128, 192, 256);
-        m.go(250);
-        Check.state("undo at 250", m, 7, 0, 8, 26);
+    private static void forwardByACheckpoint() {
+        Check.sentence("else its state becomes that of the checkpoint, UNDO is empty, and it steps from C to u (u above t)");
+        Used m = Words.circling(100);
+        m.go(15);
+        m.go(16);
+        Check.state("one step would do, but C is above t", m, 0, 16, 7, 0, 8, 0);
+        m.go(31);
+        m.go(33);
+        Check.state("over a checkpoint", m, 0, 33, 7, 1, 8, 1);
         m.go(100);
-        Check.state("by the checkpoint 64", m, 7, 36, 8, 32);
-        Words.run(m, 3000);
-        Check.checkpoints("3000", m, 0, 512, 1024, 1536, 2048, 2560);
-        Check.state("3000", m, 9, 512);
-        Check.refused("checkpoint(6)", IndexOutOfBoundsException.class, () -> m.checkpoint(6));
+        Check.state("over many", m, 0, 100, 7, 4, 8, 4);
+        Used kept = Words.circling(100);
+        kept.go(95);
+        Check.state("27 steps to undo", kept, 8, 27);
+        kept.go(97);
+        Check.state("UNDO is empty before its steps", kept, 0, 97, 7, 1, 8, 1);
+        Used busy = Words.busy();
+        busy.forth(200);
+        List<Integer> due = Check.moment(busy);
+        busy.go(3);
+        busy.go(200);
+        Check.state("the state too", busy, 0, 200, 7, 8, 8, 8);
+        Check.sameWhole("the state too", Check.moment(busy), due);
     }
 
-    private static void checkpointsOnlyOfNewTimes() {
-        ReplayMachine m = Words.circling();
-        Words.run(m, 130);
+    private static void backByACheckpoint() {
+        Check.sentence("else its state becomes that of the checkpoint, UNDO is empty, and it steps from C to u (u below t)");
+        Used m = Words.circling(100);
+        m.go(20);
+        Check.state("from 16", m, 0, 20, 7, 4, 8, 4);
+        m.go(15);
+        Check.state("from 0", m, 0, 15, 7, 15, 8, 15);
+        Used same = Words.circling(40);
+        same.go(34);
+        same.go(7);
+        same.go(39);
+        Check.state("from 32", same, 0, 39, 7, 7, 8, 7);
+        same.go(32);
+        same.go(31);
+        Check.state("just before the checkpoint that it is at", same, 0, 31, 7, 15, 8, 15);
+    }
+
+    private static void costIsTheSteps() {
+        Check.sentence("The COST is how many steps it does.");
+        Used m = Words.circling(600);
+        m.go(500);
+        Check.state("the state of 384 and 116 steps", m, 7, 116);
+        m.go(480);
+        Check.state("undone ones are none", m, 7, 0);
+        m.go(490);
+        Check.state("10 forward", m, 7, 10);
         m.go(1);
-        Words.run(m, 120);
-        Check.checkpoints("times that were there before", m, 0, 32, 64, 96, 128);
-        m.go(0);
-        Check.checkpoints("at time 0", m, 0, 32, 64, 96, 128);
-        Words.run(m, 160);
-        Check.checkpoints("a new one", m, 0, 32, 64, 96, 128, 160);
-        m.go(159);
-        m.step();
-        Check.checkpoints("T itself a second time", m, 0, 32, 64, 96, 128, 160);
+        Check.state("the state of 0 and one step", m, 7, 1);
+        m.go(127);
+        Check.state("126 forward", m, 7, 126);
+        m.go(127);
+        Check.state("none", m, 7, 0);
     }
 
-    /** Random numbers, inputs, a call, a frame and stores, so that every part of the state moves. */
-    private static ReplayMachine busy() {
-        ReplayMachine m = Words.machine(5, Words.push(5), Words.LOAD, Words.random(9), Words.call(13),
-            Words.ADD, Words.ADD, Words.push(5), Words.STORE, Words.TAKE, Words.random(32), Words.STORE, Words.jump(0),
-            Words.HALT, Words.argument(0), Words.FRAME, Words.MULTIPLY, Words.RETURN);
-        for (int i = 0; i < 40; i++) {
-            m.input(3 * i - 50);
+    private static void goesToATime() {
+        Check.sentence("go: Goes to a time.");
+        Used m = Words.counting(60);
+        for (int time : new int[] {0, 60, 1, 59, 30, 16, 15, 17, 60, 0}) {
+            m.go(time);
+            Check.state("go(" + time + ")", m, 0, time, 1, 60, 2, time % 7);
+            Check.same("the counted cell", m.cell(5), (time + 1) / 7);
         }
-        m.forth(1000);
-        return m;
+        new Used(0).go(0);
     }
 
-    /** All of a state at a time, from wherever it is come to: by undo, by checkpoints, by steps. */
-    private static void statesAreTheSame() {
-        ReplayMachine going = busy();
-        int end = going.state(1);
-        Check.same("it runs long enough", end > 500, true);
-        for (int i = 0; i < 150; i++) {
-            int to = i * i * 7 % (end + 1);
-            going.go(to);
-            compare("go(" + to + ")", going, stepped(to));
-            going.back(i % 40);
-            int before = Math.max(0, to - i % 40);
-            compare("back to " + before, going, stepped(before));
-        }
+    private static void refusesOtherTimes() {
+        Check.sentence("go: IllegalArgumentException if it is not 0 .. T.");
+        Used fresh = new Used(0);
+        Check.refusesAll("go", fresh, IllegalArgumentException.class, fresh::go, -1, 1, Check.MIN, Check.MAX);
+        Used m = Words.circling(50);
+        m.go(10);
+        Check.state("a cost to be kept", m, 7, 10, 8, 10);
+        Check.refusesAll("go", m, IllegalArgumentException.class, m::go, -1, 51, 3000, Check.MIN, Check.MAX);
+        m.go(50);
+        Check.state("T itself", m, 0, 50);
+        Used limit = Words.circling(3000);
+        Check.refusesAll("go", limit, IllegalArgumentException.class, limit::go, 3001, -1);
+        limit.go(0);
+        limit.go(3000);
+        Check.state("the greatest T", limit, 0, 3000);
     }
 
-    private static ReplayMachine stepped(int time) {
-        ReplayMachine m = busy();
-        m.go(0);
-        Words.run(m, time);
-        return m;
-    }
-
-    private static void compare(String what, ReplayMachine got, ReplayMachine due) {
-        for (int part = 0; part <= 6; part++) {
-            Check.same(what + ": state(" + part + ")", got.state(part), due.state(part));
+    private static void looksAtNoStops() {
+        Check.sentence("go: Goes to a time (STOPs are forth's and back's)");
+        Used m = Words.counting(100);
+        m.setWatch(5);
+        for (int place = 0; place < 7; place++) {
+            m.setBreak(place);
         }
-        for (int at = 0; at < 32; at++) {
-            Check.same(what + ": cell(" + at + ")", got.cell(at), due.cell(at));
-        }
-        for (int i = 0; i < due.state(6) && i < got.state(6); i++) {
-            Check.same(what + ": stack(" + i + ")", got.stack(i), due.stack(i));
-        }
+        m.go(3);
+        Check.state("back over stops", m, 0, 3);
+        m.go(99);
+        Check.state("forward over stops", m, 0, 99);
     }
 }

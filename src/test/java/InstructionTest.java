@@ -1,294 +1,279 @@
-/** Promises 1, 4, 12 and 14: a new object, what each instruction does, and what stops it. */
+/** Terms, THE MACHINE, and promise 1: a new object and what each instruction does, up to its edges. */
 public final class InstructionTest {
-    private static final int MIN = Integer.MIN_VALUE;
-    private static final int MAX = Integer.MAX_VALUE;
+    private static final int MIN = Check.MIN;
+    private static final int MAX = Check.MAX;
 
     public static void main(String[] args) {
         newObject();
+        firstCode();
+        wordAndN();
         stackWords();
-        arithmetic();
+        wrappingResults();
+        quotients();
+        less();
         cells();
         jumps();
-        callsAndArguments();
-        strangeFrames();
-        inputsAndRandom();
-        stops();
-        tooFew();
-        tooMany();
-        orderOfStops();
+        call();
+        returning();
+        argument();
+        nextInput();
+        randomNumbers();
+        randomOfEachN();
+        frame();
+        pcOneMore();
         Check.end("InstructionTest");
     }
 
     private static void newObject() {
+        Check.sentence("At first all is 0 but X, which is given, and the stack is empty.");
         for (int x : new int[] {0, 7, -1, MIN, MAX}) {
-            ReplayMachine m = new ReplayMachine(x);
+            Used m = new Used(x);
             Check.state("new", m, 0, 0, 1, 0, 2, 0, 3, 0, 4, x, 5, 0, 6, 0, 7, 0, 8, 0, 9, 16, 10, 1);
             Check.stack("new", m);
             Check.checkpoints("new", m, 0);
             for (int at = 0; at < 32; at++) {
                 Check.same("a new cell", m.cell(at), 0);
             }
-            Check.same("code of zeros halts", m.step(), 1);
+        }
+    }
+
+    private static void firstCode() {
+        Check.sentence("THE MACHINE has a CODE of 64 words ... At first all is 0");
+        Check.same("place 0", new Used(0).step(), 1);
+        for (int place = 1; place < 64; place++) {
+            Used m = Words.machine(0, Words.jump(place));
+            m.step();
+            Check.same("place " + place, m.step(), 1);
         }
     }
 
     /** Runs words to their HALT and looks at the stack. */
-    private static ReplayMachine leaves(String what, int[] words, int... numbers) {
-        ReplayMachine m = Words.machine(0, words);
+    private static void leaves(String what, int[] words, int... numbers) {
+        Used m = Words.machine(0, words);
         Check.same(what + ": forth", m.forth(1000), 1);
         Check.stack(what, m, numbers);
-        return m;
     }
 
-    private static int[] of(int... words) {
-        return words;
+    private static void wordAndN() {
+        Check.sentence("A word is an opcode, its lowest five bits, and N, the others (word >> 5)");
+        leaves("greatest word with opcode 1", Words.of(MAX - 30), Words.MOST_N);
+        leaves("least word with opcode 1", Words.of(MIN + 1), Words.LEAST_N);
+        leaves("N -1", Words.of(-31), -1);
+        leaves("N 0", Words.of(1), 0);
+        leaves("an N that the opcode does not use", Words.of(Words.push(5), Words.word(3, 77), Words.word(5, -1)), 10);
+        Check.same("the least word is a HALT", Words.machine(0, MIN).step(), 1);
+        Check.same("the greatest word has opcode 31", Words.machine(0, MAX).step(), 5);
+        Check.same("the word -1 has opcode 31", Words.machine(0, -1).step(), 5);
     }
 
     private static void stackWords() {
-        leaves("push", of(Words.push(5), Words.push(-7)), 5, -7);
-        leaves("widest N", of(Words.push((1 << 26) - 1), Words.push(-(1 << 26))), (1 << 26) - 1, -(1 << 26));
-        leaves("drop", of(Words.push(5), Words.push(6), Words.DROP), 5);
-        leaves("repeat", of(Words.push(5), Words.push(6), Words.REPEAT), 5, 6, 6);
-        leaves("swap", of(Words.push(4), Words.push(5), Words.push(6), Words.SWAP), 4, 6, 5);
-        leaves("frame", of(Words.FRAME), 0);
-        leaves("N of an opcode without one is passed over", of(Words.push(5), Words.word(3, 77)), 5, 5);
+        Check.sentence("1 N is pushed. 2 b is taken off. 3 b is pushed again. 4 a and b change places.");
+        leaves("push", Words.of(Words.push(5), Words.push(-7)), 5, -7);
+        leaves("drop", Words.of(Words.push(5), Words.push(6), Words.DROP), 5);
+        leaves("drop of the only one", Words.of(Words.push(5), Words.DROP));
+        leaves("repeat", Words.of(Words.push(5), Words.push(6), Words.REPEAT), 5, 6, 6);
+        leaves("swap", Words.of(Words.push(4), Words.push(5), Words.push(6), Words.SWAP), 4, 6, 5);
     }
 
     private static void binary(String what, int opcode, int a, int b, int due) {
-        // Inputs can be any int, while N has only 27 bits.
-        ReplayMachine m = Words.machine(0, Words.TAKE, Words.TAKE, opcode);
-        m.input(a);
-        m.input(b);
-        Check.same(what, m.forth(1000), 1);
-        Check.stack(what + " " + a + ", " + b, m, due);
-        m.back(1);
-        Check.stack(what + " undone", m, a, b);
+        Used m = Words.given(Words.of(9, a, b), opcode);
+        Check.same(what, m.step(), 0);
+        Check.stack(what + " of " + a + ", " + b, m, 9, due);
     }
 
-    private static void arithmetic() {
+    private static void wrappingResults() {
+        Check.sentence("5 a + b, 6 a - b, 7 a * b ... (results wrap");
         binary("add", Words.ADD, 7, 3, 10);
-        binary("add wraps", Words.ADD, MAX, 1, MIN);
+        binary("add wraps above", Words.ADD, MAX, 1, MIN);
+        binary("add wraps below", Words.ADD, MIN, -1, MAX);
         binary("subtract", Words.SUBTRACT, 7, 3, 4);
-        binary("subtract wraps", Words.SUBTRACT, MIN, 1, MAX);
+        binary("subtract wraps below", Words.SUBTRACT, MIN, 1, MAX);
+        binary("subtract wraps above", Words.SUBTRACT, 0, MIN, MIN);
         binary("multiply", Words.MULTIPLY, 7, -3, -21);
         binary("multiply wraps", Words.MULTIPLY, 65536, 65537, 65536);
+        binary("multiply wraps to 0", Words.MULTIPLY, 65536, 65536, 0);
+        binary("multiply wraps", Words.MULTIPLY, MIN, -1, MIN);
+        binary("the one quotient that wraps", Words.DIVIDE, MIN, -1, MIN);
+    }
+
+    private static void quotients() {
+        Check.sentence("8 a / b ... quotients are cut towards 0");
         binary("divide", Words.DIVIDE, 7, 2, 3);
-        binary("divide is cut towards 0", Words.DIVIDE, -7, 2, -3);
-        binary("divide is cut towards 0", Words.DIVIDE, 7, -2, -3);
-        binary("divide wraps", Words.DIVIDE, MIN, -1, MIN);
+        binary("divide", Words.DIVIDE, -7, 2, -3);
+        binary("divide", Words.DIVIDE, 7, -2, -3);
+        binary("divide", Words.DIVIDE, -7, -2, 3);
+        binary("divide", Words.DIVIDE, -1, 2, 0);
+        binary("divide", Words.DIVIDE, MIN, 1, MIN);
+        binary("divide", Words.DIVIDE, 0, 5, 0);
+    }
+
+    private static void less() {
+        Check.sentence("9 1 if a is less than b, else 0");
         binary("less", Words.LESS, 3, 7, 1);
-        binary("not less", Words.LESS, 7, 3, 0);
-        binary("not less when the same", Words.LESS, 7, 7, 0);
-        binary("less is no difference that wraps", Words.LESS, MIN, MAX, 1);
-        binary("less is no difference that wraps", Words.LESS, MAX, MIN, 0);
+        binary("more", Words.LESS, 7, 3, 0);
+        binary("the same", Words.LESS, 7, 7, 0);
+        binary("no difference that wraps", Words.LESS, MIN, MAX, 1);
+        binary("no difference that wraps", Words.LESS, MAX, MIN, 0);
     }
 
     private static void cells() {
-        ReplayMachine m = leaves("store and load",
-            of(Words.push(41), Words.push(31), Words.STORE, Words.push(9), Words.push(0), Words.STORE,
-                Words.push(1), Words.push(31), Words.LOAD), 1, 41);
-        Check.same("cell 31", m.cell(31), 41);
-        Check.same("cell 0", m.cell(0), 9);
-        Check.same("cell 30", m.cell(30), 0);
-        for (int at : new int[] {32, -1, 33, 55, MIN, MAX}) {
-            Check.same("no such cell", m.cell(at), 0);
+        Check.sentence("10 LOAD: the cell b instead of b. 11 STORE: the cell b becomes a; both are taken off.");
+        Used m = Words.machine(0, Words.push(41), Words.push(31), Words.STORE, Words.push(9), Words.push(0), Words.STORE,
+            Words.push(0), Words.LOAD, Words.push(31), Words.LOAD, Words.push(30), Words.LOAD);
+        Check.same("forth", m.forth(1000), 1);
+        Check.stack("loaded", m, 9, 41, 0);
+        for (int at = 0; at < 32; at++) {
+            Check.same("cell " + at, m.cell(at), at == 0 ? 9 : at == 31 ? 41 : 0);
         }
     }
 
     private static void jumps() {
-        leaves("jump", of(Words.jump(2), Words.HALT, Words.push(3)), 3);
-        for (int b : new int[] {-1, 0, 1}) {
-            leaves("if zero", of(Words.push(b), Words.ifZero(3), Words.push(8)), b == 0 ? of() : of(8));
-            leaves("if below", of(Words.push(b), Words.ifBelow(3), Words.push(8)), b < 0 ? of() : of(8));
+        Check.sentence("12 the PC is N. 13 b is taken off; if it is 0, the PC is N. 14 likewise, if it is below 0.");
+        for (int place : new int[] {0, 63, 64, -1, Words.MOST_N, Words.LEAST_N}) {
+            Used m = Words.machine(0, Words.jump(place));
+            Check.same("jump", m.step(), 0);
+            Check.state("jump", m, 2, place, 0, 1);
         }
-        for (int place : new int[] {64, -1, 1000000, -1000000}) {
-            ReplayMachine m = Words.machine(0, Words.jump(place));
-            Check.same("a jump out of the code is done", m.step(), 0);
-            Check.state("jump out", m, 0, 1, 2, place);
-            Check.same("and the next step stops", m.step(), 4);
-            Check.state("jump out", m, 0, 1, 2, place);
+        for (int b : new int[] {MIN, -1, 0, 1, MAX}) {
+            Used zero = Words.given(Words.of(b), Words.ifZero(40));
+            Check.same("if zero", zero.step(), 0);
+            Check.state("if zero, " + b, zero, 2, b == 0 ? 40 : 2, 6, 0);
+            Used below = Words.given(Words.of(b), Words.ifBelow(40));
+            Check.same("if below", below.step(), 0);
+            Check.state("if below, " + b, below, 2, b < 0 ? 40 : 2, 6, 0);
         }
-        ReplayMachine m = new ReplayMachine(0);
-        m.poke(0, Words.jump(63));
-        m.poke(63, Words.push(1));
-        Check.same("behind the last word", m.forth(1000), 4);
-        Check.state("behind the last word", m, 0, 2, 2, 64);
     }
 
-    private static void callsAndArguments() {
-        ReplayMachine m = Words.machine(0, Words.push(10), Words.push(20), Words.call(5), Words.push(99), Words.HALT,
-            Words.argument(0), Words.argument(1), Words.FRAME, Words.RETURN);
-        Words.run(m, 3);
-        Check.stack("call", m, 10, 20, 3, 0);
-        Check.state("call", m, 2, 5, 3, 4);
-        Words.run(m, 6);
-        Check.stack("arguments", m, 10, 20, 3, 0, 20, 10, 4);
-        Words.run(m, 7);
-        Check.stack("return", m, 10, 20, 4);
-        Check.state("return", m, 2, 3, 3, 0);
-        Check.same("halt behind the call", m.forth(1000), 1);
-        Check.stack("behind the call", m, 10, 20, 4, 99);
-        m.back(2);
-        Check.stack("return undone", m, 10, 20, 3, 0, 20, 10, 4);
-        Check.state("return undone", m, 2, 8, 3, 4);
-        leaves("an argument above the frame", of(Words.push(7), Words.call(3), Words.HALT, Words.push(8),
-            Words.argument(-3)), 7, 2, 0, 8, 8);
-        // What a RETURN left above the stack is written over by later steps, and must come back.
-        ReplayMachine over = Words.machine(0, Words.call(8), Words.push(51), Words.push(52), Words.push(53),
-            Words.push(54), Words.HALT, Words.HALT, Words.HALT,
+    private static void call() {
+        Check.sentence("15 CALL: the PC behind it, then F are pushed; F is how many are on the stack then; the PC is N.");
+        Used m = Words.machine(0, Words.call(5));
+        m.poke(5, Words.call(63));
+        m.poke(63, Words.call(64));
+        m.step();
+        Check.stack("a call on the empty stack", m, 1, 0);
+        Check.state("a call on the empty stack", m, 2, 5, 3, 2);
+        m.step();
+        Check.stack("a call in a call", m, 1, 0, 6, 2);
+        Check.state("a call in a call", m, 2, 63, 3, 4);
+        Check.same("a call from the last place to none", m.step(), 0);
+        Check.stack("a call from the last place", m, 1, 0, 6, 2, 64, 4);
+        Check.state("a call from the last place", m, 2, 64, 3, 6);
+        Used full = Words.filled(22, Words.call(7));
+        Check.same("a call that fills the stack", full.step(), 0);
+        Check.state("a call that fills the stack", full, 2, 7, 3, 24, 6, 24);
+        Check.same("the PC behind it", full.stack(22), 23);
+    }
+
+    private static void returning() {
+        Check.sentence("16 RETURN: b is remembered; only the F lowest numbers of the stack are left, then F is what "
+            + "is on top, the PC what is below that (both are taken off), and b is pushed.");
+        Used bare = Words.machine(0, Words.call(2), Words.HALT, Words.push(8), Words.RETURN);
+        Check.same("one number above F", bare.forth(9), 1);
+        Check.stack("one number above F", bare, 8);
+        Check.state("one number above F", bare, 2, 1, 3, 0, 0, 3);
+        Used many = Words.machine(0, Words.push(10), Words.call(3), Words.HALT, Words.call(5), Words.RETURN,
             Words.push(31), Words.push(32), Words.push(33), Words.RETURN);
-        Check.same("return and more", over.forth(1000), 1);
-        Check.stack("return and more", over, 33, 51, 52, 53, 54);
-        over.back(5);
-        Check.stack("all of the return undone", over, 1, 0, 31, 32, 33);
-    }
-
-    /** A frame whose two lowest numbers were replaced: F and the PC can become any numbers. */
-    private static ReplayMachine framed(int pc, int frame) {
-        ReplayMachine m = Words.machine(0, Words.call(1), Words.DROP, Words.DROP, Words.TAKE, Words.TAKE,
-            Words.push(70), Words.RETURN, Words.argument(0), Words.RETURN);
-        m.input(pc);
-        m.input(frame);
-        Words.run(m, 7);
-        Check.stack("strange frame", m, 70);
-        Check.state("strange frame", m, 2, pc, 3, frame);
-        return m;
-    }
-
-    private static void strangeFrames() {
-        for (int frame : new int[] {MIN, MIN + 2, -1, 0, 2, 4, 25, MAX}) {
-            Check.same("no argument with F " + frame, framed(7, frame).step(), 2);
-            Check.same("no return with F " + frame, framed(8, frame).step(), 2);
+        Words.run(many, 7);
+        Check.stack("what lay between is gone", many, 10, 2, 0, 33);
+        Check.state("the inner return", many, 2, 4, 3, 3);
+        many.step();
+        Check.stack("the outer return", many, 10, 33);
+        Check.state("the outer return", many, 2, 2, 3, 0);
+        for (int any : new int[] {MIN, -1, 64, MAX}) {
+            Used strange = Words.framed(any, ~any);
+            Check.stack("what was put there in the frame", strange, 70);
+            Check.state("what was put there in the frame", strange, 0, 7, 2, any, 3, ~any);
         }
-        ReplayMachine found = framed(7, 3);
-        Check.same("an argument with F 3", found.step(), 0);
-        Check.stack("an argument with F 3", found, 70, 70);
-        Check.same("a PC of any number", framed(MIN, 0).step(), 4);
-        Check.same("a PC of any number", framed(MAX, 0).step(), 4);
-        ReplayMachine m = framed(MAX, 5);
-        m.setBreak(63);
-        Check.same("no breakpoint outside the code", m.forth(5), 4);
-        Check.same("no breakpoint outside the code", m.back(0), 11);
     }
 
-    private static void inputsAndRandom() {
-        ReplayMachine m = Words.machine(12345, Words.random(100), Words.random(1), Words.random((1 << 26) - 1));
-        int x = 12345;
-        for (int n : new int[] {100, 1, (1 << 26) - 1}) {
-            x = x * 1103515245 + 12345;
-            Check.same("random", m.step(), 0);
-            Check.state("random", m, 4, x);
-            Check.same("random", m.stack(m.state(6) - 1), (x >>> 16) % n);
+    private static void argument() {
+        Check.sentence("17 ARGUMENT: number F - 3 - N of the stack, counted from 0 at the bottom, is pushed.");
+        int[] numbers = {10, 20, 30, 4, 0};
+        for (int n = -2; n <= 2; n++) {
+            Used m = Words.machine(0, Words.push(10), Words.push(20), Words.push(30), Words.call(4), Words.argument(n));
+            Words.run(m, 4);
+            Check.same("argument " + n, m.step(), 0);
+            Check.same("argument " + n, m.stack(5), numbers[2 - n]);
+            Check.state("argument " + n, m, 2, 5, 6, 6);
         }
-        ReplayMachine taking = Words.machine(0, Words.TAKE, Words.TAKE);
-        Check.same("no input", taking.step(), 7);
-        Check.state("no input", taking, 0, 0, 5, 0);
-        taking.input(-9);
-        Check.same("one input", taking.forth(9), 7);
-        Check.state("one input", taking, 0, 1, 5, 1);
-        taking.input(8);
-        Check.same("two inputs", taking.step(), 0);
-        Check.stack("two inputs", taking, -9, 8);
-        Check.state("two inputs", taking, 5, 2);
+        Used above = Words.machine(0, Words.call(1), Words.push(8), Words.argument(-3));
+        Words.run(above, 3);
+        Check.stack("a number above F", above, 1, 0, 8, 8);
     }
 
-    private static void stopsWith(String what, int code, int... words) {
-        ReplayMachine m = Words.machine(3, words);
-        Check.same(what, m.forth(1000), code);
-        int time = m.state(0);
-        int height = m.state(6);
-        int pc = m.state(2);
-        int undo = m.state(8);
-        Check.same(what + " again", m.step(), code);
-        Check.state(what + " changes nothing", m, 0, time, 1, time, 2, pc, 6, height, 8, undo, 4, 3);
+    private static void nextInput() {
+        Check.sentence("18 the next input is pushed (taken).");
+        Used m = Words.machine(0, Words.TAKE, Words.TAKE);
+        m.input(MIN);
+        m.input(MAX);
+        Check.state("before", m, 5, 0);
+        m.step();
+        Check.state("one taken", m, 5, 1);
+        m.step();
+        Check.state("two taken", m, 5, 2);
+        Check.stack("in their order", m, MIN, MAX);
     }
 
-    private static void stops() {
-        for (int opcode = 21; opcode < 32; opcode++) {
-            stopsWith("opcode " + opcode, 5, Words.word(opcode, 3));
-            stopsWith("opcode " + opcode, 5, Words.word(opcode, -1));
-        }
-        stopsWith("halt with an N", 1, Words.word(0, 5));
-        for (int at : new int[] {32, -1, 55, 1000}) {
-            stopsWith("load of no cell", 4, Words.push(at), Words.LOAD);
-            stopsWith("store to no cell", 4, Words.push(1), Words.push(at), Words.STORE);
-        }
-        stopsWith("division by 0", 6, Words.push(1), Words.push(0), Words.DIVIDE);
-        stopsWith("random of 0", 6, Words.random(0));
-        stopsWith("random of less", 6, Words.random(-1));
-        stopsWith("no input", 7, Words.TAKE);
-    }
-
-    private static void tooFew() {
-        int[] needs = {0, 0, 1, 1, 2, 2, 2, 2, 2, 2, 1, 2, 0, 1, 1};
-        for (int opcode = 2; opcode < needs.length; opcode++) {
-            for (int height = 0; height <= 2; height++) {
-                ReplayMachine m = new ReplayMachine(0);
-                for (int i = 0; i < height; i++) {
-                    m.poke(i, Words.push(1));
-                }
-                m.poke(height, opcode);
-                Words.run(m, height);
-                Check.same("opcode " + opcode + " with " + height, m.step(), height < needs[opcode] ? 2 : 0);
+    private static void randomNumbers() {
+        Check.sentence("19 X becomes 1103515245 X + 12345; its upper 16 bits (a number 0 .. 65535) modulo N are pushed.");
+        for (int x : new int[] {0, 1, -1, 12345, MIN, MAX}) {
+            Used m = Words.machine(x, Words.random(65536), Words.random(100), Words.random(65536), Words.random(Words.MOST_N));
+            long next = x;
+            for (int n : new int[] {65536, 100, 65536, Words.MOST_N}) {
+                next = (int) (1103515245L * next + 12345);
+                Check.same("random", m.step(), 0);
+                Check.state("random", m, 4, (int) next);
+                Check.same("random", m.stack(m.state(6) - 1), ((next & 0xffffffffL) / 65536) % n);
             }
         }
-        stopsWith("return without a frame", 2, Words.push(1), Words.push(2), Words.push(3), Words.RETURN);
-        stopsWith("return with nothing above F", 2, Words.call(1), Words.RETURN);
-        Check.same("a return with nothing above F is not done", timeOfStop(Words.call(1), Words.RETURN), 1);
-        stopsWith("no argument below", 2, Words.call(1), Words.argument(0));
-        stopsWith("no argument above", 2, Words.call(1), Words.argument(-3));
-        stopsWith("no argument without a frame", 2, Words.argument(0));
     }
 
-    private static int timeOfStop(int... words) {
-        ReplayMachine m = Words.machine(0, words);
-        m.forth(1000);
-        return m.state(0);
-    }
-
-    /** The machine with so many numbers on the stack, in front of the words given. */
-    private static ReplayMachine filled(int height, int... words) {
-        ReplayMachine m = new ReplayMachine(0);
-        for (int i = 0; i < height; i++) {
-            m.poke(i, Words.push(1));
+    private static void randomOfEachN() {
+        Check.sentence("its upper 16 bits (a number 0 .. 65535) modulo N");
+        // 0 x 1103515245 + 12345 has upper bits of 0, and -12345 goes to where they are 65535.
+        int inverse = inverseOf(1103515245);
+        int toHighest = (-1 - 12345) * inverse;
+        for (int n : new int[] {1, 2, 65535, 65536, Words.MOST_N}) {
+            Used least = Words.machine(0, Words.random(n));
+            least.step();
+            Check.stack("upper bits 0, N " + n, least, 0);
+            Used highest = Words.machine(toHighest, Words.random(n));
+            highest.step();
+            Check.state("all bits of X", highest, 4, -1);
+            Check.stack("upper bits 65535, N " + n, highest, 65535 % n);
         }
-        for (int i = 0; i < words.length; i++) {
-            m.poke(height + i, words[i]);
-        }
-        Words.run(m, height);
-        return m;
     }
 
-    private static void tooMany() {
-        int[] growing = {Words.push(1), Words.REPEAT, Words.TAKE, Words.random(5), Words.FRAME};
-        for (int word : growing) {
-            for (int height = 23; height <= 24; height++) {
-                ReplayMachine m = filled(height, word);
-                m.input(1);
-                Check.same("word " + word + " on " + height, m.step(), height == 24 ? 3 : 0);
-                Check.state("word " + word, m, 6, 24, 4, word == Words.random(5) && height == 23 ? 12345 : 0);
+    /** The number that takes an odd one to 1 in wrapping multiplication (each round doubles the right bits). */
+    private static int inverseOf(int odd) {
+        int inverse = odd;
+        for (int i = 0; i < 5; i++) {
+            inverse *= 2 - odd * inverse;
+        }
+        return inverse;
+    }
+
+    private static void frame() {
+        Check.sentence("20 F is pushed.");
+        leaves("F at first", Words.of(Words.FRAME), 0);
+        leaves("F of a call", Words.of(Words.push(9), Words.call(2), Words.FRAME), 9, 2, 0, 3);
+    }
+
+    private static void pcOneMore() {
+        Check.sentence("Behind each other instruction the PC is 1 more.");
+        int[] words = {Words.push(1), Words.DROP, Words.REPEAT, Words.SWAP, Words.ADD, Words.SUBTRACT, Words.MULTIPLY,
+            Words.DIVIDE, Words.LESS, Words.LOAD, Words.STORE, Words.ifZero(5), Words.ifBelow(5), Words.argument(-1),
+            Words.TAKE, Words.random(3), Words.FRAME};
+        for (int word : words) {
+            for (int place = 62; place <= 63; place++) {
+                // The call leaves a frame, so that there is an argument.
+                Used m = Words.machine(0, Words.call(1), Words.push(6), Words.push(2), Words.jump(place));
+                m.poke(place, word);
+                m.input(5);
+                Words.run(m, 4);
+                Check.same("word " + word, m.step(), 0);
+                Check.state("word " + word + " at " + place, m, 0, 5, 2, place + 1);
             }
         }
-        Check.same("a call on 22", filled(22, Words.call(0)).step(), 0);
-        Check.same("a call on 23", filled(23, Words.call(0)).step(), 3);
-        Check.same("a call on 24", filled(24, Words.call(0)).step(), 3);
-        int[] notGrowing = {Words.DROP, Words.SWAP, Words.ADD, Words.LOAD, Words.STORE, Words.jump(0), Words.ifZero(0)};
-        for (int word : notGrowing) {
-            Check.same("word " + word + " on 24", filled(24, word).step(), 0);
-        }
-        ReplayMachine full = filled(1, Words.call(2), Words.push(1), Words.jump(2));
-        Check.same("pushing till it is full", full.forth(1000), 3);
-        Check.state("pushing till it is full", full, 6, 24, 3, 3);
-        ReplayMachine argument = filled(1, Words.call(2), Words.argument(0), Words.jump(2));
-        Check.same("arguments till it is full", argument.forth(1000), 3);
-        Check.same("the argument", argument.stack(23), 1);
-    }
-
-    private static void orderOfStops() {
-        Check.same("too few before division", Words.machine(0, Words.DIVIDE).step(), 2);
-        Check.same("too few before the cell", Words.machine(0, Words.push(99), Words.STORE).forth(9), 2);
-        Check.same("division before too many", filled(24, Words.random(0)).step(), 6);
-        Check.same("input before too many", filled(24, Words.TAKE).step(), 7);
-        Check.same("too few before too many", filled(24, Words.argument(0)).step(), 2);
     }
 }

@@ -142,6 +142,12 @@ final class Model {
         return breaks.remove(place);
     }
 
+    /** The first breakpoint from a place on, or else the place itself. */
+    int someBreak(int place) {
+        Integer found = breaks.ceiling(place);
+        return found == null ? place : found;
+    }
+
     boolean setWatch(int cell) {
         index(cell, 32);
         return watches.add(cell);

@@ -3,10 +3,12 @@ import java.util.function.IntSupplier;
 
 /** All promises: runs of calls drawn from fixed seeds, answered by the class and by the model. */
 public final class ModelTest {
-    private static final int RUNS = 1500;
+    private static final int RUNS = 8000;
+    /** Enough calls for the look at everything with which a run ends. */
+    private static final int LAST_LOOK = 90;
 
     private final Random random;
-    private final ReplayMachine real;
+    private final Used real;
     private final Model model;
     private final int run;
     private int place = 0;
@@ -15,17 +17,18 @@ public final class ModelTest {
         this.run = run;
         random = new Random(run);
         int x = random.nextInt();
-        real = new ReplayMachine(x);
+        real = new Used(x);
         model = new Model(x);
     }
 
     public static void main(String[] args) {
+        Check.sentence("the whole document, against the model");
         long steps = 0;
         for (int run = 0; run < RUNS; run++) {
             ModelTest test = new ModelTest(run);
             test.program();
             test.calls();
-            steps += test.real.state(1);
+            steps += test.model.state(1);
         }
         System.out.println("greatest times, all together: " + steps);
         Check.same("the programs run long enough to be worth it", steps > 200L * RUNS, true);
@@ -114,10 +117,15 @@ public final class ModelTest {
         }
     }
 
+    /** All of the 512 calls that the document allows one object. */
     private void calls() {
-        for (int i = 0; i < 120; i++) {
+        while (real.callsLeft() > LAST_LOOK + 6) {
             call();
-            look();
+            glance();
+        }
+        look();
+        while (real.callsLeft() > 0) {
+            state(random.nextInt(11));
         }
     }
 
@@ -131,11 +139,11 @@ public final class ModelTest {
     }
 
     private int time() {
-        int t = real.state(0);
-        int most = real.state(1);
+        int t = model.state(0);
+        int most = model.state(1);
         return switch (random.nextInt(4)) {
             case 0 -> random.nextInt(most + 3) - 1;
-            case 1 -> real.checkpoint(random.nextInt(real.state(10))) + random.nextInt(3) - 1;
+            case 1 -> model.checkpoint(random.nextInt(model.state(10))) + random.nextInt(3) - 1;
             default -> t + random.nextInt(80) - 40;
         };
     }
@@ -145,6 +153,7 @@ public final class ModelTest {
         int time = time();
         int small = random.nextInt(6) == 0 ? random.nextInt(70) - 2 : random.nextInt(5);
         int at = random.nextInt(66) - 1;
+        int set = model.someBreak(at);
         switch (random.nextInt(16)) {
             case 0, 1 -> both("step()", real::step, model::step);
             case 2, 3, 4 -> both("forth(" + fuel + ")", () -> real.forth(fuel), () -> model.forth(fuel));
@@ -152,12 +161,7 @@ public final class ModelTest {
             case 8, 9, 10 -> both("go(" + time + ")", () -> done(() -> real.go(time)), () -> done(() -> model.go(time)));
             case 11 -> both("input(" + at + ")", () -> real.input(at), () -> model.input(at));
             case 12 -> both("setBreak(" + at + ")", () -> real.setBreak(at) ? 1 : 0, () -> model.setBreak(at) ? 1 : 0);
-            case 13 -> {
-                for (int b = -1; b <= 64; b++) {
-                    int each = b;
-                    both("clearBreak(" + b + ")", () -> real.clearBreak(each) ? 1 : 0, () -> model.clearBreak(each) ? 1 : 0);
-                }
-            }
+            case 13 -> both("clearBreak(" + set + ")", () -> real.clearBreak(set) ? 1 : 0, () -> model.clearBreak(set) ? 1 : 0);
             case 14 -> both("setWatch(" + small + ")", () -> real.setWatch(small) ? 1 : 0, () -> model.setWatch(small) ? 1 : 0);
             default -> both("clearWatch(" + small + ")", () -> real.clearWatch(small) ? 1 : 0, () -> model.clearWatch(small) ? 1 : 0);
         }
@@ -166,19 +170,47 @@ public final class ModelTest {
         }
     }
 
+    private void state(int what) {
+        both("state(" + what + ")", () -> real.state(what), () -> model.state(what));
+    }
+
+    private void cell(int at) {
+        both("cell(" + at + ")", () -> real.cell(at), () -> model.cell(at));
+    }
+
+    private void stack(int i) {
+        both("stack(" + i + ")", () -> real.stack(i), () -> model.stack(i));
+    }
+
+    private void checkpoint(int i) {
+        both("checkpoint(" + i + ")", () -> real.checkpoint(i), () -> model.checkpoint(i));
+    }
+
+    /** Some of what there is to see, so that a run has room for many calls. */
+    private void glance() {
+        state(0);
+        state(7);
+        state(random.nextInt(13) - 1);
+        if (random.nextBoolean()) {
+            cell(random.nextInt(5));
+            stack(random.nextInt(3) - 1 + random.nextInt(model.state(6) + 1));
+        } else {
+            checkpoint(random.nextInt(10) - 1);
+        }
+    }
+
     private void look() {
         for (int i = -1; i <= 11; i++) {
-            int each = i;
-            both("state(" + i + ")", () -> real.state(each), () -> model.state(each));
-            both("checkpoint(" + i + ")", () -> real.checkpoint(each), () -> model.checkpoint(each));
+            state(i);
+        }
+        for (int i = -1; i <= 9; i++) {
+            checkpoint(i);
         }
         for (int i = -1; i <= 32; i++) {
-            int each = i;
-            both("cell(" + i + ")", () -> real.cell(each), () -> model.cell(each));
+            cell(i);
         }
-        for (int i = 0; i <= 25; i++) {
-            int each = i;
-            both("stack(" + i + ")", () -> real.stack(each), () -> model.stack(each));
+        for (int i = -1; i <= 25; i++) {
+            stack(i);
         }
     }
 }
