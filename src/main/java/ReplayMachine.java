@@ -35,7 +35,7 @@ public final class ReplayMachine {
 
     public ReplayMachine(int x) {
         machine = new Machine(x);
-        checkpoints = new Checkpoints(machine.now);
+        checkpoints = new Checkpoints(x);
         breaks = new boolean[CODE_SIZE];
         watches = new boolean[CELLS];
     }
@@ -257,6 +257,7 @@ public final class ReplayMachine {
     private static final class State extends Registers {
         final int[] memory;
 
+        /** The state of time 0. */
         State(int firstX) {
             x = firstX;
             changed = NO_CELL;
@@ -344,29 +345,32 @@ public final class ReplayMachine {
         int size;
         int every;
 
-        Checkpoints(State first) {
+        Checkpoints(int firstX) {
             kept = new State[MOST_CHECKPOINTS];
             for (int i = 0; i < MOST_CHECKPOINTS; i++) {
-                kept[i] = new State(0);
+                kept[i] = new State(firstX);
             }
-            kept[0].copyState(first);
             size = 1;
             every = FIRST_EVERY;
         }
 
         /** Keeps the state of a time above any before it, if it is one to be kept. */
         void offer(State state) {
-            if (state.time % every != 0) {
+            if (!isMultiple(state.time)) {
                 return;
             }
             if (size == MOST_CHECKPOINTS) {
                 every *= 2;
                 thinOut();
             }
-            if (state.time % every == 0 && size < MOST_CHECKPOINTS) {
+            if (isMultiple(state.time) && size < MOST_CHECKPOINTS) {
                 kept[size].copyState(state);
                 size++;
             }
+        }
+
+        private boolean isMultiple(int time) {
+            return every > 0 && time % every == 0;
         }
 
         /** Those that are gone change places with those that stay, so that their rows serve again. */
@@ -374,7 +378,7 @@ public final class ReplayMachine {
             int left = 0;
             for (int i = 0; i < size; i++) {
                 State state = kept[i];
-                if (state.time % every == 0) {
+                if (isMultiple(state.time)) {
                     kept[i] = kept[left];
                     kept[left] = state;
                     left++;
